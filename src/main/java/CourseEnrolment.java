@@ -508,7 +508,7 @@ public final class CourseEnrolment {
         return hours;
     }
 
-    /** The courses taken come as an argument, because a place that would be given up counts not. */
+    /** The courses taken come as an argument: a place that would be given up does not count. */
     private int obstacleFor(Student who, Course course, int taken) {
         if (isIn(who.passedSet, course.number)) {
             return PASSED;

@@ -179,6 +179,25 @@ final class WaitingTests {
         Check.same("nobody waits", 0, x.waiting(0));
     }
 
+    static void p27_inAFullOffice() {
+        CourseEnrolment x = new CourseEnrolment();
+        for (int c = 0; c < 20; c++) {
+            x.addCourse(0, 1, 0);
+        }
+        for (int s = 0; s < 16; s++) {
+            x.addStudent(0, 40);
+        }
+        x.request(15, 19);
+        x.request(0, 19);
+        x.request(15, 0);
+        x.setSeats(19, 1);
+        x.setSeats(0, 1);
+        Check.same("the last course and the first", 2, x.advance(3));
+        Check.same("nobody waits", 0, x.waiting(0));
+        Check.same("offered to the next", 3, x.offerDays(0, 19));
+        Check.same("credits", 1, x.accept(0, 19));
+    }
+
     static void p27_expiredStudentsMayAskAnew() {
         CourseEnrolment x = withOffer();
         x.advance(3);
