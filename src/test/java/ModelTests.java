@@ -63,11 +63,11 @@ final class ModelTests {
         }
 
         private int course() {
-            return odd(numbers.below(Math.max(1, office.courses())), 60);
+            return odd(numbers.below(Math.max(1, model.courses())), 60);
         }
 
         private int student() {
-            return odd(numbers.below(Math.max(1, office.students())), 60);
+            return odd(numbers.below(Math.max(1, model.students())), 60);
         }
 
         /** Mostly a student and a course for which the call has something to do. */
